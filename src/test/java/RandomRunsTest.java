@@ -85,9 +85,8 @@ public final class RandomRunsTest {
         StringBuilder text = new StringBuilder();
         int members = random.nextInt(40) == 0 ? random.nextInt(10) : 1 + random.nextInt(7);
         for (int k = 0; k < members; k++) {
-            text.append('m').append(random.nextInt(4)).append(',').append(1 + random.nextInt(9))
-                    .append(',').append(random.nextInt(61)).append(',').append(random.nextInt(10))
-                    .append(';');
+            text.append("m" + random.nextInt(4) + "," + within(1, 9) + "," + within(0, 60) + ","
+                    + within(0, 9) + ";");
             if (random.nextInt(6) == 0) text.append(otherItem());
         }
         for (int k = random.nextInt(4); k > 0; k--) text.append(otherItem());
@@ -98,11 +97,26 @@ public final class RandomRunsTest {
     private String otherItem() {
         switch (random.nextInt(3)) {
             case 0:
-                return "p" + random.nextInt(100) + "," + random.nextInt(10) + "," + random.nextInt(5) + ";";
+                return "p" + within(0, 99) + "," + within(0, 9) + "," + random.nextInt(random.nextBoolean() ? 4 : 10)
+                        + ";";
             case 1:
-                return "r" + (1 + random.nextInt(20)) + ";";
+                return "r" + within(1, 20) + ";";
             default:
-                return "f" + (1 + random.nextInt(20)) + ";";
+                return "f" + within(1, 20) + ";";
+        }
+    }
+
+    /** At one of its bounds, or just beside it, more often than others. */
+    private int within(int least, int greatest) {
+        switch (random.nextInt(8)) {
+            case 0:
+                return least;
+            case 1:
+                return greatest;
+            case 2:
+                return greatest - 1;
+            default:
+                return least + random.nextInt(greatest - least + 1);
         }
     }
 
